@@ -1093,29 +1093,11 @@ public final class MendedWithTheWord {
             token = place - start > MOST_DIGITS ? Token.WRONG : Token.DIGITS;
         }
 
+        /** NAMES go by their places in Rules.name(). */
         private void lookAtWord() {
             while (place < size && isLetter(tape[place])) {
                 place++;
             }
-            if (isWord("says")) {
-                token = Token.SAYS_KEY;
-            } else if (isWord("slacks")) {
-                token = Token.SLACKS_KEY;
-            } else if (isWord("holds")) {
-                token = Token.HOLDS_KEY;
-            } else if (isWord("or")) {
-                token = Token.OR;
-            } else if (isWord("and")) {
-                token = Token.AND;
-            } else if (isWord("not")) {
-                token = Token.NOT;
-            } else {
-                lookAtName();
-            }
-        }
-
-        /** NAMES by their places in Rules.name(). */
-        private void lookAtName() {
             if (isWord("tone")) {
                 token = Token.FIRST_NAME;
             } else if (isWord("day")) {
@@ -1126,8 +1108,20 @@ public final class MendedWithTheWord {
                 token = Token.FIRST_NAME + 3;
             } else if (isWord("mended")) {
                 token = Token.FIRST_NAME + 4;
+            } else if (isWord("seam")) {
+                token = Token.FIRST_NAME + 5;
+            } else if (isWord("says")) {
+                token = Token.SAYS_KEY;
+            } else if (isWord("slacks")) {
+                token = Token.SLACKS_KEY;
+            } else if (isWord("holds")) {
+                token = Token.HOLDS_KEY;
+            } else if (isWord("or")) {
+                token = Token.OR;
+            } else if (isWord("and")) {
+                token = Token.AND;
             } else {
-                token = isWord("seam") ? Token.FIRST_NAME + 5 : Token.WRONG;
+                token = isWord("not") ? Token.NOT : Token.WRONG;
             }
         }
 

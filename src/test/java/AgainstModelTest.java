@@ -296,8 +296,8 @@ public final class AgainstModelTest {
     }
 
     private void copy(int sheet, int i, int other, int j, int n) {
-        check("copy(" + sheet + ", " + i + ", " + other + ", " + j + ", " + n + ")", () -> x.copy(sheet, i, other, j, n),
-            () -> model.copy(sheet, i, other, j, n));
+        check("copy(" + sheet + ", " + i + ", " + other + ", " + j + ", " + n + ")",
+            () -> x.copy(sheet, i, other, j, n), () -> model.copy(sheet, i, other, j, n));
     }
 
     private void people(int sheet, int sort, int from, int n) {

@@ -71,6 +71,10 @@ public final class LanguageTest {
             .collect(Collectors.joining(",", "(", ")")) + method.getReturnType().getSimpleName();
     }
 
+    private static boolean isPublicOrPrivate(int modifiers) {
+        return Modifier.isPublic(modifiers) || Modifier.isPrivate(modifiers);
+    }
+
     private static void face() {
         Class<?> face = MendedWithTheWord.class;
         due.same("public and final", Modifier.toString(face.getModifiers()), "public final");
@@ -79,7 +83,7 @@ public final class LanguageTest {
         List<String> privateNames = new ArrayList<>();
         for (Method method : face.getDeclaredMethods()) {
             int modifiers = method.getModifiers();
-            due.same("public or private: " + method, Modifier.isPublic(modifiers) || Modifier.isPrivate(modifiers), true);
+            due.same("public or private: " + method, isPublicOrPrivate(modifiers), true);
             if (Modifier.isPublic(modifiers)) {
                 due.same("of the object: " + method, Modifier.isStatic(modifiers), false);
                 publicMethods.add(signature(method));
@@ -96,7 +100,7 @@ public final class LanguageTest {
         Set<String> constants = new TreeSet<>();
         for (Field field : face.getDeclaredFields()) {
             int modifiers = field.getModifiers();
-            due.same("public or private: " + field, Modifier.isPublic(modifiers) || Modifier.isPrivate(modifiers), true);
+            due.same("public or private: " + field, isPublicOrPrivate(modifiers), true);
             if (Modifier.isPublic(modifiers)) {
                 constants.add(field.toString());
             }
@@ -116,8 +120,9 @@ public final class LanguageTest {
             int fields = 0;
             for (Field field : one.getDeclaredFields()) {
                 int modifiers = field.getModifiers();
-                due.same("static is final: " + field, !Modifier.isStatic(modifiers) || Modifier.isFinal(modifiers), true);
-                fields += Modifier.isStatic(modifiers) ? 0 : 1;
+                boolean isStatic = Modifier.isStatic(modifiers);
+                due.same("static is final: " + field, !isStatic || Modifier.isFinal(modifiers), true);
+                fields += isStatic ? 0 : 1;
             }
             due.same("some twenty fields: " + one, fields <= 20, true);
             List<Executable> calls = new ArrayList<>(List.of(one.getDeclaredMethods()));

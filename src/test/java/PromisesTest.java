@@ -318,6 +318,9 @@ public final class PromisesTest {
         fault("says saysay;", 5);
         fault("saysone;", 0);
         fault("says one;", 5);
+        fault("says xone;", 5);
+        fault("says dayz;", 5);
+        fault("says zday;", 5);
         fault("says 12345;", 5);
         fault("says 00000;", 5);
         fault("says 0000;", 10);
@@ -356,6 +359,13 @@ public final class PromisesTest {
     }
 
     private static void openAtOnce() {
+        MendedWithTheWord x = new MendedWithTheWord();
+        due.is("text FAULT with 5 open", Due.text(x, "says not-((-"), -112);
+        due.is("text behind it", Due.text(x, "says (((((1)))));slacks 1;holds 1;"), 1);
+        due.is("text FAULT", Due.text(x, "says day day"), -109);
+        due.is("text FAULT: nothing of the last TAPE is left", Due.text(x, "says da"), -105);
+        due.is("text FAULT: nothing of the last TAPE is left", Due.text(x, "says 123456"), -105);
+        due.is("text FAULT: nothing of the last TAPE is left", Due.text(x, "says 123"), -108);
         fault("says (((((1)))));slacks 1;holds 1;", NONE);
         fault("says ((((((1))))));", 10);
         fault("says -----1;slacks 1;holds 1;", NONE);
@@ -624,6 +634,9 @@ public final class PromisesTest {
         due.is("when: never both", x.when(0), NONE);
         x.seam(67, 1, 990);
         due.is("when: PIECES not there", x.when(1), 76);
+        Due.text(x, "says day - 1; slacks 0; holds 0;");
+        x.force(1);
+        due.is("when: not on DAY 100", x.when(1), NONE);
         due.is("when BAD", x.when(2), BAD);
         due.is("when BAD", x.when(-1), BAD);
         due.is("when BAD", x.when(MAX), BAD);
@@ -743,6 +756,9 @@ public final class PromisesTest {
         due.is("soon: DAY 99", y.soon(), 99);
         y.set(0, 0, 99);
         due.is("soon: DAY 99, today", y.soon(), 0);
+        Due.text(y, "says day - 1; slacks 0; holds 0;");
+        y.force(2);
+        due.is("soon: not on DAY 100", y.soon(), NONE);
     }
 
     // Promise 16
@@ -760,6 +776,7 @@ public final class PromisesTest {
         due.is("gentler", x.gentler(), 76);
         due.is("gentler: SLACK stays", x.told(0, 10), 3);
         due.is("gentler: nothing was MENDED", x.count(2), 0);
+        due.is("gentler: nobody is gentler behind it", x.fewest(0), NONE);
         Due.text(x, "says 0; slacks 0; holds 0;");
         x.force(1);
         due.is("gentler: 99", x.gentler(), 99);
@@ -829,6 +846,12 @@ public final class PromisesTest {
         x.cell(0, 0, 18);
         x.cell(0, 1, 18);
         tellsAre(x, 0, 0, 1, NONE, 32, 4, 1023, 100, 0, 3);
+        Due.text(x, "says tone = 100; slacks 0; holds 0;");
+        x.force(2);
+        x.cell(0, 0, 1);
+        x.cell(0, 1, 1);
+        tellsAre(x, 0, 1, 1, 0, 0, 0, 0, 0, NONE, 0);
+        x.force(1);
         due.is("tells: NUMBER stays", x.told(0, 2), 2);
         due.is("tells: KIND stays", x.told(0, 6), DOG);
         due.is("tells: RULE stays", x.count(5), 1);
