@@ -11,10 +11,10 @@ public final class RoomTest {
         fill(x);
         dear(x);
         long before = threads.getCurrentThreadAllocatedBytes();
-        for (int k = 0; k < 20; k++) {
+        for (int k = 0; k < 12; k++) {
             dear(x);
         }
-        due.same("20 times the dear calls make next to nothing",
+        due.same("12 times the dear calls make next to nothing",
             threads.getCurrentThreadAllocatedBytes() - before < 20_000, true);
         before = threads.getCurrentThreadAllocatedBytes();
         for (int k = 0; k < 100; k++) {
@@ -32,8 +32,8 @@ public final class RoomTest {
             x.seam(1 + s % 7 * 11, s % 6, 200 + 37 * s);
         }
         x.set(1, 0, 8);
-        while (x.count(3) < 6) {
-            Due.text(x, "says (((((1+2)+day)+mended)*2)+3)*2 or 1 and not 0;slacks 1+2+3+4+5+6;holds 1+1+1+1+1+1+1;");
+        while (x.count(3) < 3) {
+            Due.text(x, "says (((((1+2)+day)+mended)*2)+3)*2 or 1 and not 0;slacks 1+2+3+4+5+6;holds 1+1+1+1;");
         }
         x.sheet(0, 2, 40);
     }
